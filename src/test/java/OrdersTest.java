@@ -86,8 +86,17 @@ public final class OrdersTest {
         Due.due("three", y.orders(), 6);
         Due.stock(y, 2, 2, 1);
         Due.due("0 ahead of 2", y.orders(), 3);
-        Due.due("seen does not matter", y.seen(0, 9), Due.NONE);
-        Due.due("0 ahead of 2", y.orders(), 3);
+        seenDoesNotMatter(y);
+    }
+
+    private static void seenDoesNotMatter(LeadPress x) {
+        Due.due("seen", x.seen(0, 9), Due.NONE);
+        Due.due("none fits", x.fits(), 0);
+        Due.due("orders()", x.orders(), 3);
+        x.fits();
+        Due.due("first(0)", x.first(0), 0);
+        x.fits();
+        Due.due("most(0)", x.most(0), 3);
     }
 
     private static void firstIs(LeadPress x, String order) {

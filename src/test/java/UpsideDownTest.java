@@ -167,6 +167,7 @@ public final class UpsideDownTest {
         Due.word(x, 9, "cde");
         Due.sheet(x, 0, "99");
         Due.sheet(x, 5, "900");
+        Due.sheet(x, 1, "99990");
         x.take(1);
         x.stand(0, 9);
         x.stand(9, -1);
