@@ -182,6 +182,7 @@ public final class UpsideDownTest {
 
     private static void imageAndRestore() {
         LeadPress x = new LeadPress();
+        Due.word(x, 9, "bc");
         Due.sheet(x, 1, "0000");
         x.stand(9, 3);
         x.seen(4, 9);
