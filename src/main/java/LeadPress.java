@@ -211,7 +211,9 @@ public final class LeadPress {
         if (!isThere(sheet) || !isThere(other) || sheet == other) {
             return UNKNOWN;
         }
-        int all = fits();
+        ways.load(shop);
+        ways.wantAsSeen(shop);
+        int all = ways.count(NONE, NONE);
         if (all == 0) {
             return NO;
         }
@@ -337,11 +339,11 @@ public final class LeadPress {
         }
 
         int at(int i) {
-            return holds(i) ? cells[i] : 0;
+            return i >= 0 && i < cells.length ? cells[i] : 0;
         }
 
         void put(int i, int v) {
-            if (holds(i)) {
+            if (i >= 0 && i < cells.length) {
                 cells[i] = v;
             }
         }
@@ -379,10 +381,6 @@ public final class LeadPress {
                 sum += cells[i];
             }
             return sum;
-        }
-
-        private boolean holds(int i) {
-            return i >= 0 && i < cells.length;
         }
     }
 
@@ -598,7 +596,7 @@ public final class LeadPress {
         }
 
         int amount(int bill, int sort) {
-            return bill < 0 ? 0 : amounts.at(bill * SORTS + sort);
+            return bill < 0 || sort < 0 ? 0 : amounts.at(bill * SORTS + sort);
         }
 
         int broken(int bill) {
@@ -653,16 +651,12 @@ public final class LeadPress {
             }
             int best = NONE;
             for (int sort = 0; sort < SORTS; sort++) {
-                if (amount(bill, sort) > 0 && (best == NONE || goesAhead(bill, law, sort, best))) {
+                int more = amount(bill, sort) - amount(bill, best);
+                if (amount(bill, sort) > 0 && (best == NONE || (law == 0 ? more > 0 : more < 0))) {
                     best = sort;
                 }
             }
             return best;
-        }
-
-        private boolean goesAhead(int bill, int law, int sort, int best) {
-            int more = amount(bill, sort) - amount(bill, best);
-            return law == 0 ? more > 0 : more < 0;
         }
     }
 
@@ -696,7 +690,7 @@ public final class LeadPress {
         int lacks(Bills bills, int bill) {
             int sum = 0;
             for (int sort = 0; sort < SORTS; sort++) {
-                sum += lackOf(bills, bill, sort);
+                sum += Math.max(0, bills.amount(bill, sort) - left.at(sort));
             }
             return sum;
         }

@@ -180,38 +180,31 @@ public final class UpsideDownTest {
         x.set(1, 40);
     }
 
+    /** What stays of an IMAGE is told; ImageEdgesTest looks at all of it. */
     private static void imageAndRestore() {
         LeadPress x = new LeadPress();
         Due.word(x, 9, "bc");
         Due.sheet(x, 1, "0000");
         x.stand(9, 3);
         x.seen(4, 9);
-        String first = Due.state(x);
+        String first = told(x, 66);
         Due.due("image(0)", x.image(0), 1);
         changeAll(x);
-        String second = Due.state(x);
+        String second = told(x, 66);
         Due.due("image(1)", x.image(1), 1);
         Due.due("restore(0)", x.restore(0), 1);
-        Due.same("restore(0)", first, Due.state(x));
-        changeAll(x);
+        Due.same("restore(0)", first, told(x, 66));
         x.lay(0, 77);
         Due.due("restore(1)", x.restore(1), 1);
-        Due.same("restore(1)", second, Due.state(x));
-        x.lay(0, 78);
-        Due.due("restore(1), again", x.restore(1), 1);
-        Due.same("restore(1), again", second, Due.state(x));
-        Due.due("restore(0), again", x.restore(0), 1);
-        Due.same("restore(0), again", first, Due.state(x));
-        Due.due("image(1), anew", x.image(1), 1);
-        x.lay(0, 79);
-        Due.due("restore(1), anew", x.restore(1), 1);
-        Due.same("restore(1), anew", first, Due.state(x));
-        Due.pad(x, "xyz");
-        x.image(0);
-        x.wipe();
-        Due.pad(x, "uv");
-        x.restore(0);
-        Due.due("the pad is not kept", x.told(0), 2);
+        Due.same("restore(1)", second, told(x, 66));
+    }
+
+    private static String told(LeadPress x, int end) {
+        StringBuilder text = new StringBuilder();
+        for (int what = 0; what < end; what++) {
+            text.append(x.told(what)).append(' ');
+        }
+        return text.toString();
     }
 
     private static void imageRefused() {
