@@ -16,6 +16,7 @@ public final class LeadEdgesTest {
         pressesWithPlenty();
         pressesOneByOne();
         pressesNone();
+        pressesFewestSteps();
         pressesBreakInEachStep();
         pressesKeepTheRows();
         pressesOfFaultyPad();
@@ -191,8 +192,10 @@ public final class LeadEdgesTest {
         cost(x, "0", 1, 7);
         cost(x, "01", 1, 9 + 7);
         cost(x, "0123", 1, 13 + 11);
+        cost(x, "0123", -1, 13 + 11);
         Due.stock(x, 0, 2);
         cost(x, "0123", 1, 11 + 9);
+        cost(x, "0123", -1, 11 + 9);
         Due.stock(x, 0, 5);
         cost(x, "0123", 1, 0);
         Due.stock(x, 0, 4);
@@ -287,6 +290,29 @@ public final class LeadEdgesTest {
         steps(x, "0:2", Due.NONE);
         steps(x, "2:0", Due.NONE);
         steps(x, "01:2", Due.NONE);
+    }
+
+    /** Which two are at once makes it fewer: aa with b, not with aaa. */
+    private static void pressesFewestSteps() {
+        LeadPress x = of("aa", "b", "aaa", "c", "aaa");
+        Due.stock(x, 4, 9, 9);
+        steps(x, "0:12", 2);
+        steps(x, "12:0", 2);
+        steps(x, "0:21", 2);
+        steps(x, "21:0", 2);
+        steps(x, "03:12", 2);
+        steps(x, "12:03", 2);
+        steps(x, "13:20", 2);
+        steps(x, "0:2", 2);
+        steps(x, "0:24", 3);
+        steps(x, "2:40", 3);
+        Due.stock(x, 5);
+        steps(x, "0:12", 2);
+        steps(x, "0:2", 1);
+        steps(x, "0:24", 2);
+        steps(x, "2:40", 3);
+        Due.stock(x, 6);
+        steps(x, "2:40", 2);
     }
 
     /** In one STEP both are set by what was there ahead of it, and then two are gone. */

@@ -21,6 +21,7 @@ public final class OrderEdgesTest {
         mostOfSeveralSetsTheLeast();
         mostSomeOrderIsEnough();
         mostOutside();
+        seenAndStandInsDoNotMatter();
         changesNone();
         changesOfAllPlaces();
         changesByNone();
@@ -30,6 +31,8 @@ public final class OrderEdgesTest {
         changesBreakAnother();
         changesFewestPlaces();
         changesTheLeastOfTheFirstSheet();
+        changesFarBack();
+        changesSeenDoesNotMatter();
         changesOfNoSuchSheet();
         changesOfFaultyPad();
         askingChangesNothing();
@@ -358,6 +361,23 @@ public final class OrderEdgesTest {
         }
     }
 
+    /** What was SEEN is for FITS alone, STAND-INS are for CHANGES alone. */
+    private static void seenAndStandInsDoNotMatter() {
+        LeadPress x = oneOrder("543210");
+        x.seen(0, 30);
+        x.seen(5, 1);
+        Due.word(x, 1, "ff");
+        x.stand(0, 1);
+        Due.due("orders()", x.orders(), 1);
+        Due.due("fits()", x.fits(), 0);
+        firstIs(x, "543210");
+        Due.due("fits()", x.fits(), 0);
+        most(x, "seen otherwise", 6, 63);
+        x.lay(0, 5);
+        Due.due("stand-ins are not taken", x.orders(), 0);
+        most(x, "stand-ins are not taken", 5, 31);
+    }
+
     // ---- 16 changes
 
     private static void changed(LeadPress x, String order, int... want) {
@@ -516,6 +536,42 @@ public final class OrderEdgesTest {
         changed(x, "42", 1, 0, 1);
         x.set(0, 1);
         changed(x, "42", 1, 0, 1);
+    }
+
+    /**
+     * Five SHEETS can break one of two SORTS each; the sixth needs what is left of them. So many of b must be
+     * saved as it needs, and those that are changed stand as far back as they can.
+     */
+    private static void changesFarBack() {
+        LeadPress x = new LeadPress();
+        Due.word(x, 1, "ba");
+        Due.word(x, 2, "ab");
+        Due.word(x, 3, "b");
+        x.stand(1, 2);
+        x.set(0, 2);
+        Due.stock(x, 9, 6);
+        for (int sheet = 0; sheet < 5; sheet++) {
+            Due.sheet(x, sheet, "1");
+        }
+        String[] ways = {"000000", "000010", "000110", "001110", "011110", "111110"};
+        for (int few = 1; few <= 6; few++) {
+            Due.sheet(x, 5, "333333".substring(0, few));
+            String way = ways[few - 1];
+            Due.pad(x, "012345");
+            Due.due("places, " + few + " of b", x.changes(-1), few - 1);
+            for (int i = 0; i < 6; i++) {
+                Due.due("changes(" + i + "), " + few + " of b", x.changes(i), way.charAt(i) - '0');
+            }
+        }
+    }
+
+    private static void changesSeenDoesNotMatter() {
+        LeadPress x = ofOneLetter(6);
+        for (int sheet = 0; sheet < 6; sheet++) {
+            x.seen(sheet, 30);
+        }
+        changed(x, "012345", 0, 0, 0, 0, 0, 0, 0);
+        canBe(x, "012345");
     }
 
     private static void changesOfNoSuchSheet() {
