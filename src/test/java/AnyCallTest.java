@@ -6,7 +6,7 @@ import java.util.List;
 public final class AnyCallTest {
     private static final int[] STRANGE = {Integer.MIN_VALUE, Integer.MIN_VALUE + 1, -1000000, -65, -33, -7, -2, -1,
         31, 32, 63, 64, 65, 99, 100, 127, 256, 65536, 1 << 30, Integer.MAX_VALUE - 1, Integer.MAX_VALUE};
-    private static final int KINDS = 26;
+    private static final int KINDS = Calls.NAMES.length;
     private static final String SIGNS = "012345012345012345678901234589:::abcdefabcdefabcdefg";
 
     private static long row = 7L;
@@ -32,34 +32,7 @@ public final class AnyCallTest {
     }
 
     private static int call(LeadPress x, int kind, int a, int b) {
-        switch (kind) {
-            case 0: return x.say(a);
-            case 1: return x.wipe();
-            case 2: return x.fault(a);
-            case 3: return x.word(a);
-            case 4: return x.sheet(a);
-            case 5: return x.take(a);
-            case 6: return x.stand(a, b);
-            case 7: return x.lay(a, b);
-            case 8: return x.set(a, b);
-            case 9: return x.needs(a, b);
-            case 10: return x.judge(a);
-            case 11: return x.orders();
-            case 12: return x.first(a);
-            case 13: return x.most(a);
-            case 14: return x.changes(a);
-            case 15: return x.loans(a);
-            case 16: return x.presses();
-            case 17: return x.melt(a);
-            case 18: return x.seen(a, b);
-            case 19: return x.fits();
-            case 20: return x.ahead(a, b);
-            case 21: return x.known(a, b);
-            case 22: return x.knownOf(a, b);
-            case 23: return x.image(a);
-            case 24: return x.restore(a);
-            default: return x.told(a);
-        }
+        return Calls.on(x, Calls.NAMES[kind], a, b);
     }
 
     /** The kind of a call and its two numbers; a sign is mostly one that can stand on the pad. */
@@ -86,8 +59,7 @@ public final class AnyCallTest {
             int[] one = drawCall(3);
             int answer = call(x, one[0], one[1], one[2]);
             all.add(one);
-            boolean asks = one[0] == 2 || one[0] >= 9 && one[0] != 18 && one[0] != 23 && one[0] != 24;
-            if (!asks && (answer >= 0 || answer == Due.NONE)) {
+            if (Calls.changes(Calls.NAMES[one[0]]) && (answer >= 0 || answer == Due.NONE)) {
                 taken.add(one);
             }
             Due.due("call " + one[0] + " answers -6 or more", answer >= Due.NONE ? 1 : 0, 1);

@@ -1,5 +1,8 @@
 import java.util.ArrayList;
+import java.util.Arrays;
+import java.util.HashMap;
 import java.util.List;
+import java.util.Map;
 
 /**
  * The document's terms once more, in the plainest way that can be thought of (all orders one by one,
@@ -25,6 +28,19 @@ final class PlainPress {
         for (int sheet = 0; sheet < 6; sheet++) {
             marks[sheet] = NONE;
         }
+    }
+
+    PlainPress copy() {
+        PlainPress copy = new PlainPress();
+        System.arraycopy(words, 0, copy.words, 0, 10);
+        System.arraycopy(sheets, 0, copy.sheets, 0, 6);
+        System.arraycopy(standIns, 0, copy.standIns, 0, 10);
+        System.arraycopy(stock, 0, copy.stock, 0, 6);
+        System.arraycopy(rents, 0, copy.rents, 0, 6);
+        System.arraycopy(marks, 0, copy.marks, 0, 6);
+        copy.law = law;
+        copy.fee = fee;
+        return copy;
     }
 
     /** The letters of a sheet, a text a word; null, if a word there has no stand-in. */
@@ -194,6 +210,36 @@ final class PlainPress {
                 tryChanges(order, place + 1, broken(left, breaksOf(texts)), next, best);
             }
         }
+    }
+
+    /** The same as changes, where there are too many ways: the best one from each place and case on is kept. */
+    int[] changesByCase(String order) {
+        return changesByCase(order, stock, new HashMap<>());
+    }
+
+    private int[] changesByCase(String order, int[] left, Map<String, int[]> kept) {
+        String state = order + Arrays.toString(left);
+        if (!kept.containsKey(state)) {
+            kept.put(state, order.isEmpty() ? new int[1] : triedByCase(order, left, kept));
+        }
+        return kept.get(state);
+    }
+
+    private int[] triedByCase(String order, int[] left, Map<String, int[]> kept) {
+        int sheet = order.charAt(0) - '0';
+        int[] best = null;
+        for (int changed = 0; changed < 1 << sheets[sheet].length(); changed++) {
+            List<String> texts = printed(sheet, changed);
+            int[] rest = texts == null || lacks(left, needsOf(texts))[6] > 0 ? null
+                : changesByCase(order.substring(1), broken(left, breaksOf(texts)), kept);
+            if (rest != null && (best == null || Integer.bitCount(changed) + rest[0] < best[0])) {
+                best = new int[order.length() + 1];
+                best[0] = Integer.bitCount(changed) + rest[0];
+                best[1] = changed;
+                System.arraycopy(rest, 1, best, 2, rest.length - 1);
+            }
+        }
+        return best;
     }
 
     /** By how many are held at each sheet, 0 to 30. */

@@ -164,11 +164,15 @@ public final class PlainTest {
         }
         Due.due("loans(-1) in " + order, x.loans(-1), all);
         if (plain.choices(order) <= 4096) {
-            int[] changes = plain.changes(order);
-            for (int i = -1; i <= order.length(); i++) {
-                boolean none = changes == null || i >= order.length();
-                Due.due("changes(" + i + ") in " + order, x.changes(i), none ? Due.NONE : changes[i + 1]);
-            }
+            compareChanges(x, order, plain.changes(order));
+        }
+        compareChanges(x, order, plain.changesByCase(order));
+    }
+
+    private static void compareChanges(LeadPress x, String order, int[] changes) {
+        for (int i = -1; i <= order.length(); i++) {
+            boolean none = changes == null || i >= order.length();
+            Due.due("changes(" + i + ") in " + order, x.changes(i), none ? Due.NONE : changes[i + 1]);
         }
     }
 }

@@ -6,11 +6,6 @@ import java.util.List;
  * int) in states of all kinds: it is refused for the first reason that fits, and then changes nothing.
  */
 public final class RefusedTest {
-    private static final int UNKNOWN = Due.UNKNOWN, OUTSIDE = Due.OUTSIDE, STATE = Due.STATE, FULL = Due.FULL,
-        NO = Due.NO;
-    private static final String[] CALLS = {"say", "wipe", "fault", "word", "sheet", "take", "stand", "lay", "set",
-        "needs", "judge", "orders", "first", "most", "changes", "loans", "presses", "melt", "seen", "fits", "ahead",
-        "known", "knownOf", "image", "restore", "told"};
     private static final int[] FIRST = {Integer.MIN_VALUE, Integer.MIN_VALUE + 1, -65536, -256, -255, -64, -33, -32,
         -31, -16, -10, -9, -7, -6, -5, -4, -3, -2, -1, 0, 1, 2, 3, 4, 5, 6, 7, 8, 9, 10, 11, 12, 13, 14, 15, 16, 17,
         19, 20, 25, 26, 29, 30, 31, 32, 33, 34, 39, 40, 48, 49, 50, 55, 56, 57, 58, 59, 60, 63, 64, 65, 66, 97, 99,
@@ -19,15 +14,12 @@ public final class RefusedTest {
     private static final int[] SECOND = {Integer.MIN_VALUE, -65536, -256, -7, -3, -2, -1, 0, 1, 2, 3, 4, 5, 6, 9, 10,
         29, 30, 31, 32, 62, 63, 64, 98, 99, 100, 101, 256, 65536, Integer.MAX_VALUE};
     private static final int[] NOTHING = {0};
-    private static final String TWO = "stand lay set needs seen ahead known knownOf";
-    private static final String NEITHER = "wipe orders presses fits";
-    private static final String CHANGING = "say wipe word sheet take stand lay set seen image restore";
     private static final int AT_ONCE = 60;
 
     public static void main(String[] args) {
         for (State state : states()) {
             String[] before = Look.all(state::make);
-            for (String call : CALLS) {
+            for (String call : Calls.NAMES) {
                 tryCall(state, call, before);
             }
         }
@@ -35,13 +27,13 @@ public final class RefusedTest {
     }
 
     /** How an object comes to stand, and what of it decides on refusals. */
-    private static final class State {
-        final String name;
-        final boolean laid;
-        final String pad;
-        final String images;
-        final String sheets;
-        final boolean fits;
+    private static final class State implements Calls.Standing {
+        private final String name;
+        private final boolean laid;
+        private final String pad;
+        private final String images;
+        private final String sheets;
+        private final boolean fits;
 
         State(String name, boolean laid, String pad, String images, String sheets, boolean fits) {
             this.name = name;
@@ -94,15 +86,24 @@ public final class RefusedTest {
             x.seen(1, -1);
         }
 
-        boolean faulty(String form) {
-            for (int i = 0; i < pad.length(); i++) {
-                boolean digit = pad.charAt(i) >= '0' && pad.charAt(i) <= '5';
-                boolean there = sheets.indexOf(pad.charAt(i)) >= 0 && pad.indexOf(pad.charAt(i)) == i;
-                if (form.contains("0-5") && digit && !there) {
-                    return true;
-                }
-            }
-            return !pad.matches(form);
+        @Override
+        public String pad() {
+            return pad;
+        }
+
+        @Override
+        public String sheets() {
+            return sheets;
+        }
+
+        @Override
+        public String images() {
+            return images;
+        }
+
+        @Override
+        public boolean fits() {
+            return fits;
         }
     }
 
@@ -123,15 +124,15 @@ public final class RefusedTest {
     }
 
     private static void tryCall(State state, String call, String[] before) {
-        int[] firsts = isOneOf(call, NEITHER) ? NOTHING : FIRST;
-        int[] seconds = isOneOf(call, TWO) ? SECOND : NOTHING;
+        int[] firsts = Calls.numbers(call) == 0 ? NOTHING : FIRST;
+        int[] seconds = Calls.numbers(call) == 2 ? SECOND : NOTHING;
         List<int[]> refused = new ArrayList<>();
         List<int[]> asked = new ArrayList<>();
         for (int a : firsts) {
             for (int b : seconds) {
-                if (refusal(state, call, a, b) != 0) {
+                if (Calls.refusal(state, call, a, b) != 0) {
                     refused.add(new int[] {a, b});
-                } else if (isOneOf(call, CHANGING)) {
+                } else if (Calls.changes(call)) {
                     taken(state, call, a, b, state.make());
                 } else {
                     asked.add(new int[] {a, b});
@@ -142,12 +143,8 @@ public final class RefusedTest {
         inParts(state, call, asked, before);
     }
 
-    private static boolean isOneOf(String call, String calls) {
-        return (" " + calls + " ").contains(" " + call + " ");
-    }
-
     private static void taken(State state, String call, int a, int b, LeadPress x) {
-        int answer = on(x, call, a, b);
+        int answer = Calls.on(x, call, a, b);
         boolean taken = answer >= 0 || answer == Due.NONE;
         Due.due(state.name + ": " + call + "(" + a + ", " + b + ") is taken: " + answer, taken ? 1 : 0, 1);
     }
@@ -159,7 +156,7 @@ public final class RefusedTest {
             for (int look = 0; look < Look.LOOKS; look++) {
                 LeadPress x = state.make();
                 for (int[] one : part) {
-                    on(x, call, one[0], one[1]);
+                    Calls.on(x, call, one[0], one[1]);
                 }
                 boolean alike = Look.at(x, look).equals(before[look]);
                 Due.due(state.name + ": " + call + " changes nothing, look " + look, alike ? 1 : 0, 1);
@@ -170,101 +167,13 @@ public final class RefusedTest {
     private static void checkAnswers(State state, String call, List<int[]> part) {
         LeadPress x = state.make();
         for (int[] one : part) {
-            int want = refusal(state, call, one[0], one[1]);
+            int want = Calls.refusal(state, call, one[0], one[1]);
             if (want == 0) {
                 taken(state, call, one[0], one[1], x);
             } else {
                 String text = state.name + ": " + call + "(" + one[0] + ", " + one[1] + ")";
-                Due.due(text, on(x, call, one[0], one[1]), want);
+                Due.due(text, Calls.on(x, call, one[0], one[1]), want);
             }
-        }
-    }
-
-    private static boolean in(int number, int least, int greatest) {
-        return number >= least && number <= greatest;
-    }
-
-    /** The first reason to refuse a call; 0: there is none. */
-    private static int refusal(State state, String call, int a, int b) {
-        if (isUnknown(state, call, a, b)) {
-            return UNKNOWN;
-        }
-        if (isOutside(call, a, b)) {
-            return OUTSIDE;
-        }
-        if (call.equals("restore") && state.images.indexOf('0' + a) < 0) {
-            return STATE;
-        }
-        if (isOneOf(call, "judge changes loans melt") && state.faulty("[0-5]{1,6}")
-            || call.equals("presses") && state.faulty("[0-5]+:[0-5]+")
-            || call.equals("word") && state.faulty("[a-f]{1,5}")
-            || call.equals("sheet") && state.faulty("[0-9]{1,6}")
-            || call.equals("ahead") && !state.fits) {
-            return NO;
-        }
-        return call.equals("say") && state.pad.length() == 14 ? FULL : 0;
-    }
-
-    private static boolean isUnknown(State state, String call, int a, int b) {
-        switch (call) {
-            case "word": case "stand": case "known": return !in(a, 0, 9);
-            case "sheet": case "take": case "seen": case "knownOf": case "lay": return !in(a, 0, 5);
-            case "needs": return !in(a, 0, 5) || !in(b, -1, 5);
-            case "loans": case "melt": return !in(a, -1, 5);
-            case "ahead": return a == b || !isThere(state, a) || !isThere(state, b);
-            default: return false;
-        }
-    }
-
-    private static boolean isThere(State state, int sheet) {
-        return in(sheet, 0, 5) && state.sheets.indexOf('0' + sheet) >= 0;
-    }
-
-    private static boolean isOutside(String call, int a, int b) {
-        switch (call) {
-            case "say": return !in(a, 33, 126);
-            case "fault": return !in(a, 0, 3);
-            case "stand": return !in(b, -1, 9) || a == b;
-            case "lay": return !in(b, 0, 99);
-            case "set": return !(a == 0 && in(b, 0, 3) || a == 1 && in(b, 0, 99) || in(a, 10, 15) && in(b, 0, 99));
-            case "judge": return !in(a, 0, 2);
-            case "most": case "image": case "restore": return !in(a, 0, 1);
-            case "seen": return !in(b, -1, 30);
-            case "known": case "knownOf": return !in(b, 0, 63);
-            case "told": return !(in(a, 0, 3) || in(a, 10, 15) || in(a, 20, 25) || in(a, 30, 39) || in(a, 40, 49)
-                || in(a, 50, 55) || in(a, 60, 65));
-            default: return false;
-        }
-    }
-
-    private static int on(LeadPress x, String call, int a, int b) {
-        switch (call) {
-            case "say": return x.say(a);
-            case "wipe": return x.wipe();
-            case "fault": return x.fault(a);
-            case "word": return x.word(a);
-            case "sheet": return x.sheet(a);
-            case "take": return x.take(a);
-            case "stand": return x.stand(a, b);
-            case "lay": return x.lay(a, b);
-            case "set": return x.set(a, b);
-            case "needs": return x.needs(a, b);
-            case "judge": return x.judge(a);
-            case "orders": return x.orders();
-            case "first": return x.first(a);
-            case "most": return x.most(a);
-            case "changes": return x.changes(a);
-            case "loans": return x.loans(a);
-            case "presses": return x.presses();
-            case "melt": return x.melt(a);
-            case "seen": return x.seen(a, b);
-            case "fits": return x.fits();
-            case "ahead": return x.ahead(a, b);
-            case "known": return x.known(a, b);
-            case "knownOf": return x.knownOf(a, b);
-            case "image": return x.image(a);
-            case "restore": return x.restore(a);
-            default: return x.told(a);
         }
     }
 }
